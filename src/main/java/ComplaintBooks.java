@@ -721,13 +721,19 @@ public final class ComplaintBooks {
     Rule r = ruleInForce(p.level, now);
     int kept = 0;
     for (int g = 0; g < groups.number; g++) {
-      groups.joins[g] = r == null ? GREATEST : joinBy(r, p, g);
+      groups.joins[g] = GREATEST;
+      if (r != null) {
+        tellFields(p, g);
+        reader.takeLetters(r.letters, r.letters.length);
+        reader.readRule();
+        groups.joins[g] = reader.keeps ? reader.join : NONE;
+      }
       kept += bit(groups.joins[g] != NONE);
     }
     return kept;
   }
 
-  private int joinBy(Rule r, Place p, int g) {
+  private void tellFields(Place p, int g) {
     int what = groups.firstOf(g).what;
     reader.values[FIELD_BOOKS] = groups.sizeOf(g);
     reader.values[FIELD_PLACES] = p.below;
@@ -737,9 +743,6 @@ public final class ComplaintBooks {
     reader.values[FIELD_WHAT] = what;
     reader.values[FIELD_NOW] = now;
     reader.values[FIELD_YES] = p.yes[what];
-    reader.takeLetters(r.letters, r.letters.length);
-    reader.readRule();
-    return reader.keeps ? reader.join : NONE;
   }
 
   private void merge(int g, Place p) {
@@ -1422,22 +1425,17 @@ public final class ComplaintBooks {
       if (!isDigit(next())) {
         return readField();
       }
-      long number = readNumber();
+      long number = 0;
+      // after a first digit 0, number stays 0, and no other digit may come
+      for (int i = 0; i < MOST_DIGITS && isDigit(next()) && (i == 0 || number != 0); i++) {
+        number = 10 * number + next() - '0';
+        at++;
+      }
       if (next() != '*') {
         return number;
       }
       at++;
       return number * readField();
-    }
-
-    private int readNumber() {
-      int number = next() - '0';
-      at++;
-      for (int i = 1; i < MOST_DIGITS && number != 0 && isDigit(next()); i++) {
-        number = 10 * number + next() - '0';
-        at++;
-      }
-      return number;
     }
 
     private int readField() {
