@@ -301,6 +301,8 @@ final class EdgesOfClashes extends Edges {
           is("told thrice", x.judges(4, 11, 11, 11), 1);
           is("without others", x.judges(4, 1, 10), 0);
           is("without all", x.judges(4, 0, 1, 2, 3, 4, 5, 6, 7, 8, 9, 10, 11), 1);
+          x.row(0, 0, 60);
+          is("the first told 60 times", x.judge(4, 0), 1);
           x.put(0, 3, 11 + (1L << 32));
           is("of longs the lowest 32 bits", x.judge(4, 0), 1);
           x.withdraw(5);
