@@ -1,83 +1,33 @@
 import java.lang.reflect.Constructor;
 import java.lang.reflect.Executable;
 import java.lang.reflect.Field;
-import java.lang.reflect.Method;
 import java.lang.reflect.Modifier;
 import java.nio.file.Files;
 import java.nio.file.Path;
 import java.util.ArrayList;
 import java.util.List;
 import java.util.Set;
-import java.util.TreeSet;
 import java.util.regex.Matcher;
 import java.util.regex.Pattern;
 
-/** The document's face, and what of ../shared/LANGUAGE.md can be seen by counting. */
+/** What of ../shared/LANGUAGE.md can be seen by counting. */
 public final class LanguageTest {
   private static final Due due = new Due("LanguageTest");
   private static final Path PROGRAM = Path.of("src/main/java/ComplaintBooks.java");
-  private static final Path DOCUMENT = Path.of("../shared/DOC.md");
   private static final Set<String> LIBRARY = Set.of("java.util.Arrays", "java.util.ArrayList",
       "java.util.List", "java.util.Iterator");
 
   public static void main(String[] args) throws Exception {
     String source = Files.readString(PROGRAM);
-    face(Files.readString(DOCUMENT));
     List<Class<?>> inside = List.of(ComplaintBooks.class.getDeclaredClasses());
     due.is("twelve classes at most", inside.size() < 12 ? 1 : 0, 1);
     members(ComplaintBooks.class);
     for (Class<?> c : inside) {
-      int is = c.getModifiers();
-      due.is(c + " static", Modifier.isStatic(is) ? 1 : 0, 1);
-      due.is(c + " public or protected", Modifier.isPublic(is) || Modifier.isProtected(is) ? 1 : 0, 0);
       members(c);
     }
     words(source);
     lengths(source);
     due.close();
-  }
-
-  private static void face(String document) {
-    String block = document.substring(document.indexOf("```java"), document.indexOf("## Terms"));
-    Set<String> wanted = new TreeSet<>();
-    Matcher m = Pattern.compile("public (int|long) (\\w+)\\(([^)]*)\\);").matcher(block);
-    while (m.find()) {
-      wanted.add(m.group(1) + " " + m.group(2) + "(" + m.group(3).replaceAll("(int|long|boolean) \\w+", "$1") + ")");
-    }
-    Set<String> found = new TreeSet<>();
-    Set<String> names = new TreeSet<>();
-    for (Method method : ComplaintBooks.class.getDeclaredMethods()) {
-      if (Modifier.isPublic(method.getModifiers())) {
-        names.add(method.getName());
-        List<String> types = new ArrayList<>();
-        for (Class<?> type : method.getParameterTypes()) {
-          types.add(type.getName());
-        }
-        found.add(method.getReturnType().getName() + " " + method.getName() + "(" + String.join(", ", types) + ")");
-      } else {
-        due.is(method + " private", Modifier.isPrivate(method.getModifiers()) ? 1 : 0, 1);
-      }
-    }
-    due.is("methods of the face", wanted.size(), 47);
-    due.is("the face: " + wanted + " / " + found, wanted.equals(found) ? 1 : 0, 1);
-    for (Class<?> c : classes()) {
-      for (Method method : c.getDeclaredMethods()) {
-        boolean taken = Modifier.isPrivate(method.getModifiers()) && names.contains(method.getName());
-        due.is(method + " bears the name of a public one", taken ? 1 : 0, 0);
-      }
-    }
-    for (Field field : ComplaintBooks.class.getDeclaredFields()) {
-      boolean none = field.getName().equals("NONE");
-      due.is(field + " private", Modifier.isPrivate(field.getModifiers()) ? 1 : 0, none ? 0 : 1);
-    }
-    due.is("constructors", ComplaintBooks.class.getDeclaredConstructors().length, 1);
-    due.is("final", Modifier.isFinal(ComplaintBooks.class.getModifiers()) ? 1 : 0, 1);
-  }
-
-  private static List<Class<?>> classes() {
-    List<Class<?>> classes = new ArrayList<>(List.of(ComplaintBooks.class.getDeclaredClasses()));
-    classes.add(ComplaintBooks.class);
-    return classes;
   }
 
   private static void members(Class<?> c) {
